@@ -685,21 +685,20 @@ public final class MadeOf {
 
     /** Questions of which each may be put to either of two makers. */
     private static final class Questions {
-        /** Of each maker those with whom it shares a question, as bits; itself too, if it alone has one. */
-        private final int[] partners = new int[MAKERS];
+        /** Of each maker those who may answer its questions instead, as bits: itself, if nobody else may. */
+        private final int[] others = new int[MAKERS];
 
         void clear() {
-            Arrays.fill(partners, 0);
+            Arrays.fill(others, 0);
         }
 
         void add(int one, int other) {
-            partners[one] |= 1 << other;
-            partners[other] |= 1 << one;
+            others[one] |= 1 << other;
         }
 
         boolean areSettledBy(int asked) {
             for (int m = 0; m < MAKERS; m++) {
-                if (!contains(asked, m) && (partners[m] & ~asked) != 0) {
+                if (!contains(asked, m) && (others[m] & ~asked) != 0) {
                     return false;
                 }
             }

@@ -299,6 +299,12 @@ public final class KeepingTest {
         for (int missing : new int[] {-1, 6, 30, MIN, MAX}) {
             DUE.is("group(" + missing + ", 0)", x.group(missing, 0), -1);
         }
+        // Part 0 carries its mates along from one join to the next.
+        x.join(0, 1, 100);
+        x.join(0, 2, 100);
+        x.unlike(1, 2, 200);
+        DUE.is("group(2, 100)", x.group(2, 100), 0);
+        DUE.is("group(2, 200)", x.group(2, 200), 2);
         // Unlike from day 15 on: ends of a chain may be apart, and joins told first are done first.
         x.unlike(5, 2, 15);
         DUE.is("group(5, 14)", x.group(5, 14), 4);

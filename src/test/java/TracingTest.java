@@ -25,6 +25,7 @@ public final class TracingTest {
         promise25Makers();
         promise26Recall();
         promise27Told();
+        everythingFull();
         DUE.close("TracingTest");
     }
 
@@ -214,6 +215,7 @@ public final class TracingTest {
         x.hold(3, 2, 20, 30, 9);
         x.hold(3, 1, 0, 10000, 0);
         x.hold(4, 2, 0, 0, 0);
+        x.hold(29, 2, 10000, 10000, 0);
         x.link(0, 2, GUESSED, 5);
         DUE.is("since(0, 3, 0)", x.since(0, 3, 0), 100);
         DUE.is("since(0, 3, 5), perhaps", x.since(0, 3, 5), 50);
@@ -221,6 +223,7 @@ public final class TracingTest {
         DUE.is("since(0, 3, 9)", x.since(0, 3, 9), 20);
         DUE.is("since(0, 4, 0)", x.since(0, 4, 0), 0);
         DUE.is("since(0, 5, 0)", x.since(0, 5, 0), -1);
+        DUE.is("since(0, 29, 0)", x.since(0, 29, 0), 10000);
         for (int wrong : new int[] {-1, 10001, MIN, MAX}) {
             DUE.is("since on day " + wrong, x.since(0, 3, wrong), -1);
         }
@@ -253,11 +256,16 @@ public final class TracingTest {
         DUE.is("gaps(1, 10, 0)", x.gaps(1, 10, 0), 1);
         DUE.is("gaps(1, 10, 1)", x.gaps(1, 10, 1), 0);
         DUE.is("gaps(2, 10, 0)", x.gaps(2, 10, 0), 0);
+        x.link(5, 0, FOUND, 0);
+        DUE.is("gaps(5, 10, 0), of part 0", x.gaps(5, 10, 0), 1);
+        x.cut(8, 11);
+        x.link(5, 0, LISTED, 12);
+        DUE.is("gaps(5, 12, 1), of part 0", x.gaps(5, 12, 1), 1);
         // Another make of the part does as well.
         x.link(0, 6, LISTED, 20);
         DUE.is("gaps(0, 20, 0)", x.gaps(0, 20, 0), 0);
         DUE.is("gaps(0, 20, 1)", x.gaps(0, 20, 1), 2);
-        x.cut(8, 30);
+        x.cut(10, 30);
         DUE.is("gaps(0, 30, 0)", x.gaps(0, 30, 0), 1);
         // What is only built in or guessed neither is a gap nor fills one.
         x.link(0, 4, FOUND, 40);
@@ -409,6 +417,48 @@ public final class TracingTest {
         // Another warning about the same is told anew.
         Due.warn(x, "bad 1 any");
         DUE.accepted(x, "recall(1, 15, 50)", x.recall(1, 15, 50), 3);
+    }
+
+    /** All rows filled to their ends: each question still has its answer. */
+    private static void everythingFull() {
+        DUE.chapter("everything full");
+        MadeOf x = new MadeOf();
+        for (int p = 0; p < 30; p++) {
+            x.part(p % 10);
+        }
+        for (int m = 0; m < 60; m++) {
+            x.make(m % 30, m, 0, 0);
+        }
+        for (int l = 0; l < 200; l++) {
+            x.link(l % 59, l % 59 + 1, l < 59 ? GUESSED : l % 2, l);
+        }
+        for (int h = 0; h < 100; h++) {
+            x.hold(h % 30, h % 60, h, 10000, h);
+        }
+        for (int j = 0; j < 40; j++) {
+            x.join(j % 29, j % 29 + 1, j);
+            x.unlike(0, 29, j);
+        }
+        for (int w = 0; w < 20; w++) {
+            Due.warn(x, "bad 29 =59");
+        }
+        for (int what = 0; what < 7; what++) {
+            DUE.is("count(" + what + ")", x.count(what), new int[] {30, 60, 200, 100, 40, 40, 20}[what]);
+        }
+        DUE.is("quarrels(10000)", x.quarrels(10000), 1);
+        DUE.is("group(28, 10000)", x.group(28, 10000), 0);
+        DUE.is("group(29, 10000)", x.group(29, 10000), 29);
+        DUE.is("bad(19, 59, 10000)", x.bad(19, 59, 10000), 1);
+        DUE.is("hit(19, 0, 58)", x.hit(19, 0, 58), 1);
+        DUE.is("hit(19, 0, 10000)", x.hit(19, 0, 10000), 2);
+        DUE.is("way(19, 0, 10000, -1)", x.way(19, 0, 10000, -1), 60);
+        DUE.is("has(19, 0, 10000, 10000)", x.has(19, 0, 10000, 10000), 2);
+        DUE.is("since(19, 29, 58)", x.since(19, 29, 58), 29);
+        DUE.is("gaps(57, 10000, 0)", x.gaps(57, 10000, 0), 0);
+        DUE.is("gaps(58, 10000, 1)", x.gaps(58, 10000, 1), 0);
+        DUE.is("ring(0, 10000)", x.ring(0, 10000), 0);
+        DUE.is("calls(10000)", x.calls(10000), 1 | 1 << 2 | 1 << 4 | 1 << 6 | 1 << 8);
+        DUE.is("recall(19, 10000, 10000)", x.recall(19, 10000, 10000), 30);
     }
 
     private static void promise27Told() {

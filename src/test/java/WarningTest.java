@@ -101,6 +101,12 @@ public final class WarningTest {
         Due.warn(x, "bad 0 any or any or =5 or");
         DUE.accepted(x, "bad 0 =1", Due.warn(x, "bad 0 =1"), 2);
         DUE.is("bad(2, 0, 0)", x.bad(2, 0, 0), 0);
+        Due.warn(x, "bad 0 >6 or");
+        DUE.accepted(x, "bad 0 <9", Due.warn(x, "bad 0 <9"), 3);
+        DUE.is("bad(3, 0, 0)", x.bad(3, 0, 0), 1);
+        Due.warn(x, "bad 0 <4 or");
+        DUE.accepted(x, "bad 0 >1", Due.warn(x, "bad 0 >1"), 4);
+        DUE.is("bad(4, 0, 0)", x.bad(4, 0, 0), 1);
     }
 
     private static void promise16Room() {
@@ -159,6 +165,12 @@ public final class WarningTest {
         faultAt(x, "   ", 3);
         faultAt(x, "ba", 0);
         faultAt(x, "badd 0 any", 0);
+        faultAt(x, "cad 0 any", 0);
+        faultAt(x, "bac 0 any", 0);
+        faultAt(x, "bad 0 bny", 6);
+        faultAt(x, "bad 0 anyz", 6);
+        faultAt(x, "bad 0 any er any", 10);
+        faultAt(x, "bad 0 any ant any", 10);
         faultAt(x, " Bad 0 any", 1);
         faultAt(x, "bad", 3);
         faultAt(x, "bad  ", 5);
