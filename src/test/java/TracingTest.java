@@ -374,6 +374,12 @@ public final class TracingTest {
         // The maker is that of the part itself, not of its group.
         x.join(0, 9, 0);
         DUE.is("calls(0), joined", x.calls(0), 1 << 9);
+        MadeOf z = withAllMakers();
+        for (int p = 1; p < 10; p++) {
+            z.make(p, 2, 0, 0);
+            z.link(p, 9 + p, GUESSED, 0);
+        }
+        DUE.is("calls(0), all but the first", z.calls(0), 1022);
         // All with all: nine must be asked, all but the last.
         MadeOf y = withAllMakers();
         for (int a = 0; a < 10; a++) {
