@@ -194,8 +194,9 @@ public final class MadeOf {
     }
 
     public int warning() {
-        // A refusal for want of room comes ahead of reading, so it leaves the tape as it is.
+        // A refusal for want of room comes ahead of reading, so it tells no fault; the tape is empty behind any call.
         if (warningCount >= MOST_WARNINGS) {
+            tape.size = 0;
             return refuse(NO_ROOM);
         }
         latestFault = reader.read(parts.size, warnings[warningCount]);

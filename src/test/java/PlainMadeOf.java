@@ -125,12 +125,13 @@ final class PlainMadeOf {
     }
 
     int warning() {
+        String text = tape;
+        tape = "";
         if (warnings.size() == 20) {
             status = -5;
             return -5;
         }
-        Reading reading = new Reading(tape, makers.size());
-        tape = "";
+        Reading reading = new Reading(text, makers.size());
         fault = reading.fault;
         status = fault < 0 ? 0 : -6;
         if (fault >= 0) {

@@ -121,7 +121,14 @@ public final class WarningTest {
         Due.type(x, "bad 0 x");
         DUE.refused(x, "a fault without room", x.warning(), -5);
         DUE.is("fault() of the latest that was read", x.fault(), -1);
-        DUE.is("count(7), which was not read", x.count(7), 7);
+        DUE.is("count(7) behind a fault without room", x.count(7), 0);
+        DUE.is("end(1) of the empty tape", x.end(1), -1);
+        DUE.refused(x, "an empty tape without room", x.warning(), -5);
+        DUE.is("feed behind no room", x.feed(0, 0, 0, 0, 0), 20);
+        x.end(0);
+        DUE.refused(x, "a good text without room", Due.warn(x, "bad 0 any"), -5);
+        DUE.is("feed behind a good text without room", x.feed(0, 0, 0, 0, 0), 20);
+        DUE.is("fault() of the latest that was read", x.fault(), -1);
         DUE.is("count(6)", x.count(6), 20);
         DUE.is("bad(20, 0, 0)", x.bad(20, 0, 0), -1);
     }
