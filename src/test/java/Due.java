@@ -1,3 +1,5 @@
+import java.util.function.IntUnaryOperator;
+
 /** Counts the answers that are not as due, and prints them. */
 final class Due {
     private static final int FEED = 20;
@@ -27,6 +29,24 @@ final class Due {
     void accepted(MadeOf x, String call, long got, long want) {
         is(call, got, want);
         is("status() after " + call, x.status(), 0);
+    }
+
+    /** A call that is refused alike for each of these numbers. */
+    void allRefused(MadeOf x, String call, int[] numbers, IntUnaryOperator answer, int want) {
+        for (int n : numbers) {
+            refused(x, call + " with " + n, answer.applyAsInt(n), want);
+        }
+    }
+
+    /** A question that has the same answer for each of these numbers. */
+    void all(String call, int[] numbers, IntUnaryOperator answer, int want) {
+        for (int n : numbers) {
+            is(call + " with " + n, answer.applyAsInt(n), want);
+        }
+    }
+
+    int checked() {
+        return checked;
     }
 
     void close(String test) {

@@ -2,8 +2,12 @@ import java.util.Random;
 
 /** Long runs of calls with numbers by a fixed seed: MadeOf must answer each as PlainMadeOf does. */
 public final class RandomRunsTest {
-    private static final int RUNS = 400;
+    private static final int RUNS = 1200;
+    /** Nothing is promised of an object behind its 512th call, so a run ends where its longest deed might go beyond. */
     private static final int CALLS = 512;
+    private static final int LONGEST_DEED = 80;
+    /** Deeds that fill some row: of a run that is fond of them it gets full, or nearly so. */
+    private static final int[][] FAVOURITES = {{}, {}, {0, 1, 2}, {3, 4, 5}, {7, 8}, {9, 10, 12}, {13}, {3, 4, 5, 6}, {9, 10, 11}};
     private static final String[] WORDS = {"bad", "or", "and", "any", "<", ">", "=", ".", "0", "1", "2", "999", "1000",
         "007", " ", "  ", "x", "A", "anyor", "\t", "\u00ff", "\u0000", "12345678901234567890"};
 
@@ -36,9 +40,20 @@ public final class RandomRunsTest {
         for (int i = 0; i < weights.length; i++) {
             weights[i] = 1 + random.nextInt(random.nextInt(5) == 0 ? 12 : 4);
         }
-        for (int i = 0; i < CALLS; i++) {
-            call(i < 30 ? random.nextInt(3) : pick(weights));
-            due.is("status()", x.status(), plain.status());
+        for (int favourite : FAVOURITES[random.nextInt(FAVOURITES.length)]) {
+            weights[favourite] += 60;
+        }
+        int begin = 10 + random.nextInt(60);
+        int checkedBefore = due.checked();
+        for (int i = 0; due.checked() - checkedBefore < CALLS - LONGEST_DEED; i++) {
+            call(i < begin ? random.nextInt(3) : pick(weights));
+            if (random.nextInt(4) == 0) {
+                due.is("status()", x.status(), plain.status());
+            }
+        }
+        // Every call has one answer that is held, so these are the calls.
+        if (due.checked() - checkedBefore > CALLS) {
+            throw new IllegalStateException("a run of " + (due.checked() - checkedBefore) + " calls");
         }
     }
 

@@ -425,7 +425,7 @@ public final class TracingTest {
         DUE.accepted(x, "recall(1, 15, 50)", x.recall(1, 15, 50), 3);
     }
 
-    /** All rows filled to their ends: each question still has its answer. */
+    /** All rows but one filled to their ends, as 512 calls have room for no more: each question still has its answer. */
     private static void everythingFull() {
         DUE.chapter("everything full");
         MadeOf x = new MadeOf();
@@ -443,13 +443,13 @@ public final class TracingTest {
         }
         for (int j = 0; j < 40; j++) {
             x.join(j % 29, j % 29 + 1, j);
-            x.unlike(0, 29, j);
         }
+        x.unlike(0, 29, 39);
         for (int w = 0; w < 20; w++) {
             Due.warn(x, "bad 29 =59");
         }
         for (int what = 0; what < 7; what++) {
-            DUE.is("count(" + what + ")", x.count(what), new int[] {30, 60, 200, 100, 40, 40, 20}[what]);
+            DUE.is("count(" + what + ")", x.count(what), new int[] {30, 60, 200, 100, 40, 1, 20}[what]);
         }
         DUE.is("quarrels(10000)", x.quarrels(10000), 1);
         DUE.is("group(28, 10000)", x.group(28, 10000), 0);
