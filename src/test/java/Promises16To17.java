@@ -220,6 +220,18 @@ final class Promises16To17 {
     }
 
     @Says(promise = 16, words = "of digits, single other bytes")
+    static void warningOfOtherBytesBehindARow(Due due) {
+        for (char c : new char[] {'A', 'Z', 'M', '_', '`', '{', '@', '[', '-', 0xe4, 0xff, 0}) {
+            faulty(due, "bad" + c + " 0 any", 3);
+            faulty(due, "bad 0" + c + " any", 5);
+            faulty(due, "bad 0 any" + c, 9);
+            faulty(due, "bad 0 any or" + c, 12);
+            faulty(due, "bad 0 =1" + c, 8);
+            faulty(due, "bad 0 any" + c + c, 9);
+        }
+    }
+
+    @Says(promise = 16, words = "of digits, single other bytes")
     static void warningOfDigitsRunTogether(Due due) {
         faulty(due, "bad 0 =1 2", 9);
         faulty(due, "bad 0 0 any", 6);
@@ -297,6 +309,17 @@ final class Promises16To17 {
             faulty(due, "bad 0 =1." + number, 9);
             faulty(due, "bad 0 =1.2." + number, 11);
         }
+    }
+
+    @Says(promise = 16, words = "NUMBERS to 999")
+    static void warningOfNumbersWithZerosAhead(Due due) {
+        taken(due, "bad 00 any", "bad 0001 any", "bad 0 =00", "bad 0 =0999", "bad 0 =" + "0".repeat(190) + "999");
+        faulty(due, "bad 0 =01000", 7);
+        faulty(due, "bad 002 any", 4);
+        MadeOf x = Built.makes(10);
+        due.is("warning()", Due.warn(x, "bad 0 =00.0.0007"), 0);
+        due.is("bad(0, 7, 0)", x.bad(0, 7, 0), 1);
+        due.is("bad(0, 0, 0)", x.bad(0, 0, 0), 0);
     }
 
     @Says(promise = 16, words = "PART one that is there")

@@ -510,6 +510,19 @@ final class Promises26To29 {
         }
     }
 
+    @Says(promise = 29, words = "What the latest call of part, make, link, cut, hold, join, undo, unlike, warning, recall")
+    static void statusStaysBehindAFullTape(Due due) {
+        MadeOf x = some();
+        for (int i = 0; i < 11; i++) {
+            x.feed(0, 0, 0, 0, 0);
+            due.is("status() behind feed", x.status(), 0);
+        }
+        x.cut(1, 0);
+        x.feed(0, 0, 0, 0, 0);
+        x.end(201);
+        due.is("status() behind feed and end", x.status(), -4);
+    }
+
     @Says(promise = 29, words = "REFUSED by")
     static void statusAloneIsChangedByARefusedCall(Due due) {
         String wanted = answers(some());
