@@ -568,6 +568,17 @@ final class Promises21To25 {
         due.is("calls(0) of all with all", y.calls(0), 511);
     }
 
+    @Says(promise = 25, words = "by whom all are settled")
+    static void callsToAllMakersButOne(Due due) {
+        for (int left = 0; left < 10; left++) {
+            MadeOf x = Built.things(20);
+            for (int maker = 0; maker < 10; maker++) {
+                x.link(maker, maker + 10, maker == left ? Built.LISTED : Built.GUESSED, 0);
+            }
+            due.is("calls(0), all but " + left, x.calls(0), 1023 - (1 << left));
+        }
+    }
+
     @Says(promise = 25, words = "LINKS, 200 at most")
     static void callsByTheLastOfAllLinks(Due due) {
         MadeOf x = Built.things(10);
